@@ -23,15 +23,22 @@ final class Check {
         }
     }
 
-    /** The very class is compared: a machine's exception is often a subclass of the one that is due. */
+    /**
+     * The very class is compared, and where it was thrown: the machine's own exceptions are subclasses
+     * of those that are due, and a library's come from its own frames, but only the program's count.
+     */
     static void fails(String what, Class<? extends RuntimeException> due, Call call) {
         Class<?> got = null;
+        boolean isOwn = false;
         try {
             call.run();
         } catch (RuntimeException e) {
             got = e.getClass();
+            StackTraceElement[] frames = e.getStackTrace();
+            isOwn = frames.length > 0 && frames[0].getClassName().startsWith("NetPoints");
         }
         holds(what + " threw " + got + ", due is " + due, got == due);
+        holds(what + " threw by a throw of its own", isOwn);
     }
 
     static void finish() {
