@@ -8,13 +8,30 @@ import java.util.TreeSet;
 
 /** The class shows the document's face and nothing else. */
 public final class FaceTest {
+    private static final String INDEX = " IndexOutOfBoundsException";
+    private static final String ARGUMENT = " IllegalArgumentException";
+    private static final String STATE = " IllegalStateException";
     private static final String[] CALLS = {
-        "void setRates(int,int,int,int)", "int setFee(int,int,int)", "boolean setCrossed(boolean)",
-        "int add(int,int,int,int,int)", "int receive(int,int,int)", "int spend(int,int)",
-        "int audit(int,int,int,int)", "int closeYear()", "int pay(int)", "int year()",
-        "int gross(int)", "int adjusted(int)", "int fees(int)", "int balance(int,int)",
-        "int profit(int,int)", "int pool(int)", "int sharers()", "int sum(int)", "int paid(int)",
-        "int owed(int)",
+        "void setRates(int,int,int,int)" + INDEX + ARGUMENT,
+        "int setFee(int,int,int)" + INDEX + ARGUMENT,
+        "boolean setCrossed(boolean)",
+        "int add(int,int,int,int,int)" + INDEX + ARGUMENT + STATE,
+        "int receive(int,int,int)" + INDEX + ARGUMENT,
+        "int spend(int,int)" + INDEX + ARGUMENT,
+        "int audit(int,int,int,int)" + INDEX + ARGUMENT + STATE,
+        "int closeYear()" + STATE,
+        "int pay(int)" + INDEX + STATE,
+        "int year()",
+        "int gross(int)" + INDEX,
+        "int adjusted(int)" + INDEX,
+        "int fees(int)" + INDEX,
+        "int balance(int,int)" + INDEX + ARGUMENT,
+        "int profit(int,int)" + INDEX + ARGUMENT,
+        "int pool(int)" + INDEX,
+        "int sharers()",
+        "int sum(int)" + INDEX,
+        "int paid(int)" + INDEX,
+        "int owed(int)" + INDEX,
     };
     private static final String[] CONSTANTS = {"GROSS", "NET", "DEFERMENT", "BONUS"};
 
@@ -58,7 +75,11 @@ public final class FaceTest {
         for (Class<?> type : method.getParameterTypes()) {
             text.append(text.charAt(text.length() - 1) == '(' ? "" : ",").append(type.getName());
         }
-        return text.append(')').toString();
+        text.append(')');
+        for (Class<?> type : method.getExceptionTypes()) {
+            text.append(' ').append(type.getSimpleName());
+        }
+        return text.toString();
     }
 
     private static void constantsAreThoseOfTheDocument() {
@@ -74,6 +95,10 @@ public final class FaceTest {
             }
         }
         Check.holds("constants: " + shown, shown.equals(new TreeSet<>(Arrays.asList(CONSTANTS))));
+        Check.same("GROSS", NetPoints.GROSS, 0);
+        Check.same("NET", NetPoints.NET, 1);
+        Check.same("DEFERMENT", NetPoints.DEFERMENT, 2);
+        Check.same("BONUS", NetPoints.BONUS, 3);
     }
 
     private static void classesInsideAreHidden() {

@@ -1,70 +1,31 @@
-/** What the document promises of each call: ordinary inputs, the edges that it names, wrong inputs. */
+/** What the document promises of each call, in ordinary runs; the bounds stand in tests of their own. */
 public final class PromisesTest {
     private static final int GROSS = NetPoints.GROSS;
     private static final int NET = NetPoints.NET;
     private static final int DEFERMENT = NetPoints.DEFERMENT;
     private static final int BONUS = NetPoints.BONUS;
-    private static final int[] FAR = {Integer.MIN_VALUE, -1, 1 << 20, Integer.MAX_VALUE};
-
-    private static final Class<IndexOutOfBoundsException> INDEX = IndexOutOfBoundsException.class;
-    private static final Class<IllegalArgumentException> ARGUMENT = IllegalArgumentException.class;
-    private static final Class<IllegalStateException> STATE = IllegalStateException.class;
 
     private PromisesTest() {
     }
 
     public static void main(String[] args) {
-        promise1NewObject();
         promise2SetRates();
-        promise2SetRatesRefuses();
         promise3SetFee();
-        promise4SetCrossed();
         promise4CrossingMovesTheYearsProfit();
         promise4CrossingMovesNoMoreThanTheYearsProfit();
         promise5AddGross();
         promise5AddNet();
         promise5AddDeferment();
         promise5AddBonus();
-        promise5AddRanges();
-        promise5AddStates();
         promise6Receive();
         promise7Spend();
         promise8Audit();
-        promise8AuditRefuses();
-        promise9CloseYear();
         promise10Pay();
         promise11To14GrossAdjustedFees();
         promise15And16BalanceAndProfit();
-        promise15And16Refuse();
         promise17Pool();
         promise18To21Sharers();
-        refusedCallsChangeNothing();
-        largestMoney();
         Check.finish();
-    }
-
-    private static void promise1NewObject() {
-        NetPoints x = new NetPoints();
-        Check.same("1: year", x.year(), 0);
-        Check.same("1: sharers", x.sharers(), 0);
-        for (int p = 0; p < 2; p++) {
-            Check.same("1: gross", x.gross(p), 0);
-            Check.same("1: adjusted", x.adjusted(p), 0);
-            Check.same("1: fees", x.fees(p), 0);
-            Check.same("1: balance", x.balance(p, 0), 0);
-            Check.same("1: profit", x.profit(p, 0), 0);
-            Check.same("1: pool", x.pool(p), 0);
-            for (int w = 0; w < 4; w++) {
-                Check.same("1: fee rate", x.setFee(p, w, 0), 0);
-            }
-        }
-        Check.holds("1: not crossed", !x.setCrossed(false));
-        x.spend(0, 1000);
-        x.receive(0, 0, 400);
-        Check.same("1: all rates are 0", x.balance(0, 0), 600);
-        NetPoints other = new NetPoints();
-        Check.same("1: nothing of another object", other.balance(0, 0), 0);
-        Check.same("1: constants", GROSS * 1000 + NET * 100 + DEFERMENT * 10 + BONUS, 123);
     }
 
     private static void promise2SetRates() {
@@ -89,27 +50,6 @@ public final class PromisesTest {
         Check.same("2: interest on interest", x.balance(0, 1), 1018);
     }
 
-    private static void promise2SetRatesRefuses() {
-        NetPoints x = new NetPoints();
-        for (int far : FAR) {
-            Check.fails("2: picture", INDEX, () -> x.setRates(far, 0, 0, 0));
-            Check.fails("2: picture first", INDEX, () -> x.setRates(far, far, far, far));
-            Check.fails("2: top", ARGUMENT, () -> x.setRates(0, far, 0, 0));
-            Check.fails("2: overhead", ARGUMENT, () -> x.setRates(1, 0, far, 0));
-            Check.fails("2: interest", ARGUMENT, () -> x.setRates(0, 0, 0, far));
-        }
-        Check.fails("2: picture 2", INDEX, () -> x.setRates(2, 0, 0, 0));
-        Check.fails("2: top 10001", ARGUMENT, () -> x.setRates(0, 10001, 0, 0));
-        Check.fails("2: overhead 10001", ARGUMENT, () -> x.setRates(0, 0, 10001, 0));
-        Check.fails("2: interest 2001", ARGUMENT, () -> x.setRates(0, 0, 0, 2001));
-        x.spend(0, 100);
-        x.receive(0, 0, 10);
-        Check.same("2: nothing was set", x.balance(0, 0), 90);
-        x.setRates(1, 10000, 10000, 2000);
-        x.setRates(0, 0, 0, 0);
-        Check.same("2: the ends are in range", x.balance(0, 0), 90);
-    }
-
     private static void promise3SetFee() {
         NetPoints x = new NetPoints();
         Check.same("3: rate before", x.setFee(1, 3, 10000), 0);
@@ -125,24 +65,7 @@ public final class PromisesTest {
         Check.same("3: fees of a year", x.profit(1, 0), 1998 - 198);
         x.setFee(1, 2, 0);
         Check.same("3: for all years", x.fees(1), 99);
-        for (int far : FAR) {
-            Check.fails("3: picture", INDEX, () -> x.setFee(far, 0, 0));
-            Check.fails("3: window", INDEX, () -> x.setFee(0, far, 0));
-            Check.fails("3: window first", INDEX, () -> x.setFee(0, far, far));
-            Check.fails("3: rate", ARGUMENT, () -> x.setFee(1, 3, far));
-        }
-        Check.fails("3: picture 2", INDEX, () -> x.setFee(2, 0, 0));
-        Check.fails("3: window 4", INDEX, () -> x.setFee(1, 4, 0));
-        Check.fails("3: rate 10001", ARGUMENT, () -> x.setFee(1, 3, 10001));
         Check.same("3: nothing was set", x.setFee(1, 3, 0), 999);
-    }
-
-    private static void promise4SetCrossed() {
-        NetPoints x = new NetPoints();
-        Check.holds("4: were not", !x.setCrossed(true));
-        Check.holds("4: were", x.setCrossed(true));
-        Check.holds("4: were", x.setCrossed(false));
-        Check.holds("4: were not", !x.setCrossed(false));
     }
 
     private static void promise4CrossingMovesTheYearsProfit() {
@@ -269,75 +192,13 @@ public final class PromisesTest {
         Check.same("5: in the first year", x.balance(1, 0), 1000000);
     }
 
-    private static void promise5AddRanges() {
-        NetPoints x = new NetPoints();
-        for (int far : FAR) {
-            Check.fails("5: picture", INDEX, () -> x.add(far, far, far, far, far));
-            Check.fails("5: kind", ARGUMENT, () -> x.add(0, far, 0, 0, 0));
-            Check.fails("5: first", ARGUMENT, () -> x.add(0, BONUS, 0, far, 0));
-            Check.fails("5: second", ARGUMENT, () -> x.add(0, NET, 0, 0, far));
-        }
-        Check.fails("5: picture 2", INDEX, () -> x.add(2, 0, 0, 0, 0));
-        Check.fails("5: kind 4", ARGUMENT, () -> x.add(0, 4, 0, 0, 0));
-        for (int kind = GROSS; kind <= BONUS; kind++) {
-            int k = kind;
-            int most = kind == GROSS ? 1000 : 10000;
-            Check.fails("5: limit -1", ARGUMENT, () -> x.add(0, k, -1, 0, 0));
-            Check.fails("5: limit 10000001", ARGUMENT, () -> x.add(0, k, 10000001, 0, 0));
-            Check.fails("5: first -1", ARGUMENT, () -> x.add(0, k, 0, -1, 0));
-            Check.fails("5: second -1", ARGUMENT, () -> x.add(0, k, 0, 0, -1));
-            Check.fails("5: first above", ARGUMENT, () -> x.add(0, k, 0, most + 1, 0));
-            Check.fails("5: second above", ARGUMENT, () -> x.add(0, k, 0, 0, most + 1));
-        }
-        Check.same("5: none was added", x.sharers(), 0);
-        for (int kind = GROSS; kind <= BONUS; kind++) {
-            int most = kind == GROSS ? 1000 : 10000;
-            Check.same("5: the greatest", x.add(1, kind, 10000000, most, most), 2 * kind);
-            Check.same("5: the least", x.add(1, kind, 0, 0, 0), 2 * kind + 1);
-        }
-    }
-
-    private static void promise5AddStates() {
-        NetPoints x = new NetPoints();
-        x.add(0, NET, 0, 4000, 1);
-        x.add(0, NET, 0, 1, 3000);
-        Check.fails("5: above the whole by first", STATE, () -> x.add(0, NET, 0, 3001, 0));
-        Check.fails("5: above the whole by second", STATE, () -> x.add(0, NET, 0, 0, 3001));
-        Check.fails("5: range goes first", ARGUMENT, () -> x.add(0, NET, 0, 10001, 0));
-        Check.same("5: none was added", x.sharers(), 2);
-        Check.same("5: of another picture", x.add(1, NET, 0, 10000, 10000), 2);
-        Check.same("5: of another kind", x.add(0, DEFERMENT, 0, 10000, 10000), 3);
-        Check.same("5: just the whole", x.add(0, NET, 0, 3000, 3000), 4);
-        Check.same("5: no rate at all", x.add(0, NET, 0, 0, 0), 5);
-        Check.fails("5: above the whole", STATE, () -> x.add(0, NET, 0, 0, 1));
-        x.add(0, BONUS, 0, 0, 0);
-        x.add(1, GROSS, 0, 0, 0);
-        for (int kind = GROSS; kind <= BONUS; kind++) {
-            int k = kind;
-            Check.fails("5: a ninth", STATE, () -> x.add(0, k, 0, 0, 0));
-        }
-        Check.fails("5: range goes first", ARGUMENT, () -> x.add(0, 4, 0, 0, 0));
-        Check.fails("5: picture goes first", INDEX, () -> x.add(2, 0, 0, 0, 0));
-        Check.same("5: eight", x.sharers(), 8);
-    }
-
     private static void promise6Receive() {
         NetPoints x = new NetPoints();
         Check.same("6: receipts then", x.receive(0, 0, 1), 1);
         Check.same("6: receipts then", x.receive(0, 0, 200000), 200001);
         Check.same("6: another window", x.receive(0, 3, 7), 7);
         Check.same("6: another picture", x.receive(1, 0, 8), 8);
-        for (int far : FAR) {
-            Check.fails("6: picture", INDEX, () -> x.receive(far, 0, 1));
-            Check.fails("6: window", INDEX, () -> x.receive(1, far, 1));
-            Check.fails("6: window first", INDEX, () -> x.receive(1, far, 0));
-            Check.fails("6: amount", ARGUMENT, () -> x.receive(0, 0, far));
-        }
-        Check.fails("6: picture 2", INDEX, () -> x.receive(2, 0, 1));
-        Check.fails("6: window 4", INDEX, () -> x.receive(0, 4, 1));
-        Check.fails("6: amount 0", ARGUMENT, () -> x.receive(0, 0, 0));
-        Check.fails("6: amount 200001", ARGUMENT, () -> x.receive(0, 0, 200001));
-        Check.same("6: nothing came in", x.gross(0), 200008);
+        Check.same("6: the gross of the windows", x.gross(0), 200008);
         x.closeYear();
         Check.same("6: a new year", x.receive(0, 0, 5), 5);
         Check.same("6: all years", x.gross(0), 200013);
@@ -348,15 +209,7 @@ public final class PromisesTest {
         Check.same("7: costs then", x.spend(0, 1), 1);
         Check.same("7: costs then", x.spend(0, 200000), 200001);
         Check.same("7: another picture", x.spend(1, 9), 9);
-        for (int far : FAR) {
-            Check.fails("7: picture", INDEX, () -> x.spend(far, 1));
-            Check.fails("7: picture first", INDEX, () -> x.spend(far, 0));
-            Check.fails("7: amount", ARGUMENT, () -> x.spend(0, far));
-        }
-        Check.fails("7: picture 2", INDEX, () -> x.spend(2, 1));
-        Check.fails("7: amount 0", ARGUMENT, () -> x.spend(0, 0));
-        Check.fails("7: amount 200001", ARGUMENT, () -> x.spend(1, 200001));
-        Check.same("7: nothing was spent", x.balance(0, 0), 200001);
+        Check.same("7: the balance", x.balance(0, 0), 200001);
         x.closeYear();
         Check.same("7: a new year", x.spend(0, 5), 5);
         Check.same("7: all years", x.balance(0, 1), 200006);
@@ -386,60 +239,22 @@ public final class PromisesTest {
         Check.same("8: each year has its own receipts", x.audit(0, 2, 2, 0), 0);
     }
 
-    private static void promise8AuditRefuses() {
-        NetPoints x = new NetPoints();
-        Check.fails("8: no year is closed", STATE, () -> x.audit(0, 0, 0, 0));
-        for (int i = 0; i < 4; i++) {
-            x.closeYear();
-        }
-        x.audit(1, 1, 0, 90);
-        for (int far : FAR) {
-            Check.fails("8: picture", INDEX, () -> x.audit(far, far, 0, far));
-            Check.fails("8: window", INDEX, () -> x.audit(0, far, far, far));
-            Check.fails("8: amount", ARGUMENT, () -> x.audit(0, far, 0, far));
-            Check.fails("8: year", STATE, () -> x.audit(0, far, 0, 0));
-        }
-        Check.fails("8: picture 2", INDEX, () -> x.audit(2, 1, 0, 0));
-        Check.fails("8: window 4", INDEX, () -> x.audit(0, 1, 4, 0));
-        Check.fails("8: amount 1000001", ARGUMENT, () -> x.audit(1, 1, 0, 1000001));
-        Check.fails("8: four years ago", STATE, () -> x.audit(1, 0, 0, 0));
-        Check.fails("8: the year of now", STATE, () -> x.audit(1, 4, 0, 0));
-        Check.fails("8: a year to come", STATE, () -> x.audit(1, 5, 0, 0));
-        Check.same("8: nothing was put right", x.gross(1), 90);
-    }
-
-    private static void promise9CloseYear() {
-        NetPoints x = new NetPoints();
-        for (int year = 1; year <= 9; year++) {
-            Check.same("9: the year then", x.closeYear(), year);
-            Check.same("11: year", x.year(), year);
-        }
-        Check.fails("9: the year is 9", STATE, () -> x.closeYear());
-        Check.same("9: the year stays", x.year(), 9);
-        Check.same("9: the last year takes receipts", x.receive(0, 0, 5), 5);
-        Check.same("9: the last year takes costs", x.spend(0, 9), 9);
-        Check.same("9: the last year has a balance", x.balance(0, 9), 4);
-    }
-
     private static void promise10Pay() {
         NetPoints x = new NetPoints();
         x.add(0, NET, 10000000, 10000, 0);
-        Check.fails("10: nothing is owed", STATE, () -> x.pay(0));
+        Check.fails("10: nothing is owed", Check.STATE, () -> x.pay(0));
         x.receive(0, 0, 100);
         Check.same("10: paid", x.pay(0), 100);
-        Check.fails("10: nothing is owed any more", STATE, () -> x.pay(0));
+        Check.fails("10: nothing is owed any more", Check.STATE, () -> x.pay(0));
         x.receive(0, 0, 1);
         Check.same("10: only the rest", x.pay(0), 1);
         Check.same("20: payments, added", x.paid(0), 101);
         x.closeYear();
         x.audit(0, 0, 0, 50);
         Check.same("21: too much was paid", x.owed(0), -51);
-        Check.fails("10: less than 0 is owed", STATE, () -> x.pay(0));
+        Check.fails("10: less than 0 is owed", Check.STATE, () -> x.pay(0));
         Check.same("20: a refused payment is none", x.paid(0), 101);
-        for (int far : FAR) {
-            Check.fails("10: sharer", INDEX, () -> x.pay(far));
-        }
-        Check.fails("10: no sharer 1", INDEX, () -> x.pay(1));
+        Check.fails("10: no sharer 1", Check.INDEX, () -> x.pay(1));
         x.audit(0, 0, 0, 1000000);
         Check.same("10: what the audit found", x.pay(0), 999899);
         Check.same("10: a payment is no cost", x.profit(0, 1), 1000000);
@@ -465,14 +280,6 @@ public final class PromisesTest {
         x.audit(1, 0, 3, 10);
         Check.same("12: an audit counts", x.gross(1), 22);
         Check.same("13: an audit counts", x.adjusted(1), 10 + 6);
-        for (int far : FAR) {
-            Check.fails("12: picture", INDEX, () -> x.gross(far));
-            Check.fails("13: picture", INDEX, () -> x.adjusted(far));
-            Check.fails("14: picture", INDEX, () -> x.fees(far));
-        }
-        Check.fails("12: picture 2", INDEX, () -> x.gross(2));
-        Check.fails("13: picture 2", INDEX, () -> x.adjusted(2));
-        Check.fails("14: picture 2", INDEX, () -> x.fees(2));
     }
 
     private static void promise15And16BalanceAndProfit() {
@@ -502,23 +309,6 @@ public final class PromisesTest {
         Check.same("16: profit goes on", x.profit(0, 3), 1);
     }
 
-    private static void promise15And16Refuse() {
-        NetPoints x = new NetPoints();
-        x.closeYear();
-        for (int far : FAR) {
-            Check.fails("15: picture", INDEX, () -> x.balance(far, far));
-            Check.fails("16: picture", INDEX, () -> x.profit(far, far));
-            Check.fails("15: year", ARGUMENT, () -> x.balance(0, far));
-            Check.fails("16: year", ARGUMENT, () -> x.profit(1, far));
-        }
-        Check.fails("15: picture 2", INDEX, () -> x.balance(2, 0));
-        Check.fails("16: picture 2", INDEX, () -> x.profit(2, 0));
-        Check.fails("15: a year to come", ARGUMENT, () -> x.balance(0, 2));
-        Check.fails("16: a year to come", ARGUMENT, () -> x.profit(0, 2));
-        Check.same("15: the year of now", x.balance(0, 1), 0);
-        Check.same("16: the year of now", x.profit(0, 1), 0);
-    }
-
     private static void promise17Pool() {
         NetPoints x = new NetPoints();
         x.receive(0, 0, 100);
@@ -533,19 +323,11 @@ public final class PromisesTest {
         x.receive(0, 0, 10);
         Check.same("17: of all years", x.pool(0), 9);
         Check.same("17: the other picture", x.pool(1), 0);
-        for (int far : FAR) {
-            Check.fails("17: picture", INDEX, () -> x.pool(far));
-        }
-        Check.fails("17: picture 2", INDEX, () -> x.pool(2));
     }
 
     private static void promise18To21Sharers() {
         NetPoints x = new NetPoints();
         for (int i = 0; i < 8; i++) {
-            int next = i;
-            Check.fails("19: no such sharer yet", INDEX, () -> x.sum(next));
-            Check.fails("20: no such sharer yet", INDEX, () -> x.paid(next));
-            Check.fails("21: no such sharer yet", INDEX, () -> x.owed(next));
             Check.same("18: number", x.add(i % 2, BONUS, 0, i, 0), i);
             Check.same("18: sharers", x.sharers(), i + 1);
             Check.same("19: sum", x.sum(i), 100 * i);
@@ -557,78 +339,5 @@ public final class PromisesTest {
         Check.same("20: paid", x.paid(7), 700);
         Check.same("21: owed", x.owed(7), 0);
         Check.same("20: another sharer", x.paid(6), 0);
-        for (int far : FAR) {
-            Check.fails("19: sharer", INDEX, () -> x.sum(far));
-            Check.fails("20: sharer", INDEX, () -> x.paid(far));
-            Check.fails("21: sharer", INDEX, () -> x.owed(far));
-        }
-        Check.fails("19: sharer 8", INDEX, () -> x.sum(8));
-        Check.fails("20: sharer 8", INDEX, () -> x.paid(8));
-        Check.fails("21: sharer 8", INDEX, () -> x.owed(8));
-    }
-
-    private static void refusedCallsChangeNothing() {
-        NetPoints x = new NetPoints();
-        x.setRates(0, 100, 200, 300);
-        x.add(0, NET, 100, 6000, 0);
-        x.spend(0, 1000);
-        x.receive(0, 1, 3000);
-        x.closeYear();
-        x.receive(0, 2, 500);
-        x.pay(0);
-        long before = told(x);
-        Check.fails("refused", ARGUMENT, () -> x.setRates(0, 5000, 5000, 2001));
-        Check.fails("refused", ARGUMENT, () -> x.setFee(0, 1, 10001));
-        Check.fails("refused", STATE, () -> x.add(0, NET, 100, 4001, 0));
-        Check.fails("refused", ARGUMENT, () -> x.receive(0, 1, 200001));
-        Check.fails("refused", ARGUMENT, () -> x.spend(0, 200001));
-        Check.fails("refused", STATE, () -> x.audit(0, 1, 2, 7));
-        Check.fails("refused", ARGUMENT, () -> x.audit(0, 0, 1, -1));
-        Check.fails("refused", STATE, () -> x.pay(0));
-        Check.same("a call that throws changes nothing", told(x), before);
-    }
-
-    private static long told(NetPoints x) {
-        long all = x.year();
-        for (int p = 0; p < 2; p++) {
-            all = all * 31 + x.gross(p);
-            all = all * 31 + x.adjusted(p);
-            all = all * 31 + x.fees(p);
-            all = all * 31 + x.pool(p);
-            for (int y = 0; y <= x.year(); y++) {
-                all = all * 31 + x.balance(p, y);
-                all = all * 31 + x.profit(p, y);
-            }
-        }
-        all = all * 31 + x.sharers();
-        for (int s = 0; s < x.sharers(); s++) {
-            all = all * 31 + x.sum(s);
-            all = all * 31 + x.paid(s);
-            all = all * 31 + x.owed(s);
-        }
-        return all;
-    }
-
-    /** The most that 512 calls can bring together must not run over. */
-    private static void largestMoney() {
-        NetPoints x = new NetPoints();
-        x.setRates(0, 0, 10000, 2000);
-        x.add(1, GROSS, 10000000, 1000, 1000);
-        x.add(1, NET, 0, 0, 10000);
-        for (int i = 0; i < 240; i++) {
-            x.spend(0, 200000);
-            x.receive(1, 3, 200000);
-        }
-        Check.same("gross", x.gross(1), 48000000);
-        Check.same("sum of the kind GROSS", x.sum(0), 4800000);
-        Check.same("sum of the kind NET", x.pay(1), 43200000);
-        long due = 96000000;
-        for (int year = 0; year <= 9; year++) {
-            due += due * 2000 / 10000;
-            Check.same("balance", x.balance(0, year), due);
-            if (year < 9) {
-                x.closeYear();
-            }
-        }
     }
 }
