@@ -1,10 +1,15 @@
+import java.io.IOException;
 import java.lang.reflect.Constructor;
 import java.lang.reflect.Field;
 import java.lang.reflect.Method;
 import java.lang.reflect.Modifier;
+import java.nio.file.Files;
+import java.nio.file.Path;
 import java.util.Arrays;
 import java.util.Set;
 import java.util.TreeSet;
+import java.util.regex.Matcher;
+import java.util.regex.Pattern;
 
 /** The class shows the document's face and nothing else. */
 public final class FaceTest {
@@ -34,11 +39,16 @@ public final class FaceTest {
         "int owed(int)" + INDEX,
     };
     private static final String[] CONSTANTS = {"GROSS", "NET", "DEFERMENT", "BONUS"};
+    private static final String[] HEADINGS = {
+        "terms: setRates setFee setCrossed add",
+        "what comes and goes: receive spend audit closeYear pay",
+        "statements: year gross adjusted fees balance profit pool sharers sum paid owed",
+    };
 
     private FaceTest() {
     }
 
-    public static void main(String[] args) {
+    public static void main(String[] args) throws IOException {
         int kind = NetPoints.class.getModifiers();
         Check.holds("the class is public and final", Modifier.isPublic(kind) && Modifier.isFinal(kind));
         callsAreThoseOfTheDocument();
@@ -47,6 +57,7 @@ public final class FaceTest {
         Check.holds("one public constructor without parameters", made.length == 1
             && made[0].getParameterCount() == 0 && Modifier.isPublic(made[0].getModifiers()));
         classesInsideAreHidden();
+        callsStandUnderTheirHeadings();
         Check.finish();
     }
 
@@ -106,6 +117,24 @@ public final class FaceTest {
             int how = inside.getModifiers();
             Check.holds(inside + " is hidden and static",
                 !Modifier.isPublic(how) && !Modifier.isProtected(how) && Modifier.isStatic(how));
+        }
+    }
+
+    private static void callsStandUnderTheirHeadings() throws IOException {
+        Check.sentence("Ahead of the calls the interface says: ----");
+        String source = Files.readString(Path.of("src/main/java/NetPoints.java"));
+        Pattern headingOrCall = Pattern.compile("(?m)^    (?:// ---- (.+)|public \\w+ (\\w+)\\()");
+        StringBuilder shown = new StringBuilder();
+        Matcher found = headingOrCall.matcher(source);
+        while (found.find()) {
+            if (found.group(1) != null) {
+                shown.append('\n').append(found.group(1)).append(':');
+            } else {
+                shown.append(' ').append(found.group(2));
+            }
+        }
+        for (String heading : HEADINGS) {
+            Check.holds(heading + " in" + shown, (shown + "\n").contains("\n" + heading + "\n"));
         }
     }
 }

@@ -9,6 +9,8 @@ public final class ReckoningBoundsTest {
     }
 
     public static void main(String[] args) {
+        receiptsAndCostsOfTheirOwn();
+        sharersHaveTermsOfTheirOwn();
         drawnAnew();
         tenThousandIsTheWhole();
         comesInBelow0();
@@ -48,6 +50,60 @@ public final class ReckoningBoundsTest {
     private static void goOn(NetPoints x, int year) {
         while (x.year() < year) {
             x.closeYear();
+        }
+    }
+
+    private static void receiptsAndCostsOfTheirOwn() {
+        Check.sentence("Each picture has for each year its receipts by windows, and its costs");
+        NetPoints x = Start.fresh();
+        int[] gross = new int[2];
+        int[] costs = new int[2];
+        for (int year = 0; year < 10; year++) {
+            for (int p = 0; p < 2; p++) {
+                int spent = 100000 + 10 * year + p;
+                costs[p] += spent;
+                Check.same("costs", x.spend(p, spent), spent);
+                for (int w = 0; w < 4; w++) {
+                    int amount = 1000 + 100 * year + 10 * p + w;
+                    gross[p] += amount;
+                    Check.same("receipts", x.receive(p, w, amount), amount);
+                }
+            }
+            for (int p = 0; p < 2; p++) {
+                Check.same("gross up to " + year, x.gross(p), gross[p]);
+                Check.same("balance behind " + year, x.balance(p, year), costs[p] - gross[p]);
+            }
+            for (int ago = Math.max(0, year - 3); ago < year; ago++) {
+                receiptsStay(x, ago);
+            }
+            goOn(x, Math.min(9, year + 1));
+        }
+    }
+
+    private static void receiptsStay(NetPoints x, int year) {
+        for (int p = 0; p < 2; p++) {
+            for (int w = 0; w < 4; w++) {
+                int amount = 1000 + 100 * year + 10 * p + w;
+                Check.same("receipts of " + year, x.audit(p, year, w, amount), amount);
+            }
+        }
+    }
+
+    private static void sharersHaveTermsOfTheirOwn() {
+        Check.sentence("There can be 8. A sharer has a picture, a kind, a break, and two rates");
+        NetPoints x = Start.fresh();
+        for (int p = 0; p < 2; p++) {
+            x.add(p, GROSS, 1000 + p, 100 + p, 200 + p);
+            x.add(p, NET, 2000 + p, 3000 + p, 4000 + p);
+            x.add(p, DEFERMENT, 50 + p, 5, 6);
+            x.add(p, BONUS, 10000 + p, 7 + p, 8);
+            x.receive(p, p, 10000);
+        }
+        // Behind 190 for the GROSS and 700 for the BONUS of the picture 0 the profit is 9110, and 9810
+        // in the picture 1, where the bonus is not reached; the pools are 9060 and 9759.
+        int[] due = {190, 3424, 50, 700, 190, 3704, 51, 0};
+        for (int s = 0; s < 8; s++) {
+            Check.same("sharer " + s, x.sum(s), due[s]);
         }
     }
 

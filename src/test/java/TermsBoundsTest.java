@@ -370,12 +370,7 @@ public final class TermsBoundsTest {
         x.add(0, GROSS, 10000000, 0, 1000);
         x.add(1, NET, 10000000, 10000, 0);
         x.add(1, NET, 10000000, 0, 0);
-        x.receive(0, 0, 990);
-        x.receive(1, 0, 990);
-        Check.same("GROSS, the greatest", x.sum(0), 99);
-        Check.same("GROSS, the least", x.sum(1), 0);
-        Check.same("NET, the greatest", x.sum(2), 990);
-        Check.same("NET, the least", x.sum(3), 0);
+        sumsAtTheEnds(x);
     }
 
     private static void addSecond() {
@@ -390,6 +385,10 @@ public final class TermsBoundsTest {
         x.add(0, GROSS, 0, 1000, 0);
         x.add(1, NET, 0, 0, 10000);
         x.add(1, NET, 0, 0, 0);
+        sumsAtTheEnds(x);
+    }
+
+    private static void sumsAtTheEnds(NetPoints x) {
         x.receive(0, 0, 990);
         x.receive(1, 0, 990);
         Check.same("GROSS, the greatest", x.sum(0), 99);
